@@ -92,13 +92,16 @@ public final class ComparedRunsTest {
             int code = about(33, 126);
             both(at + " append", () -> p.append(code), () -> c.append(code));
         } else {
-            String part = below(6) == 0 ? "t" : "" + (char) ('0' + below(3)) + "nesw".charAt(below(4)) + (1 + below(8));
-            append(at, part + (below(3) == 0 ? "" : ";"), p, c);
+            append(at, part() + (below(3) == 0 ? "" : ";"), p, c);
             if (below(3) == 0) {
                 both(at + " play", p::play, c::play);
             }
         }
         both(at + " firstError", p::firstError, c::firstError);
+    }
+
+    private String part() {
+        return below(6) == 0 ? "t" : below(3) + "nesw".substring(below(4)).substring(0, 1) + (1 + below(8));
     }
 
     private void append(String at, String text, PlainRinks p, CarvedRinks c) {

@@ -578,7 +578,8 @@ final class PlainRinks {
                 }
             }
         }
-        meet(met, found == -1 ? "best of none" : most < 0 ? "best is a loss" : most > 0 ? "best gains" : "best");
+        String gain = most < 0 ? "best is a loss" : most > 0 ? "best gains" : "best";
+        meet(met, found == -1 ? "best of none" : gain);
         return found;
     }
 
