@@ -527,8 +527,8 @@ public final class CarvedRinks {
     }
 
     /**
-     * The bits of a floating number that is 0 or at least a 64th, made by hand, for the rules of
-     * the language allow no Double.doubleToLongBits; every step of it is exact.
+     * The bits of a floating number that is 0 or at least a 64th, made by arithmetic, for
+     * LANGUAGE.md lists no library call that tells them; every step of it is exact.
      */
     private static long floatingBits(double value, int bias, int fractionBits) {
         if (!(value > 0.0)) {
