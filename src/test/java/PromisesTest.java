@@ -1,51 +1,16 @@
 /** Each promise of the document by itself: ordinary inputs, the edges it names, wrong inputs. */
 public final class PromisesTest {
-    private static final int LEAST = Integer.MIN_VALUE;
-    private static final int MOST = Integer.MAX_VALUE;
-    private static final int NORTH = 0;
-    private static final int EAST = 1;
-    private static final int SOUTH = 2;
-    private static final int WEST = 3;
+    private static final int LEAST = Ponds.LEAST;
+    private static final int MOST = Ponds.MOST;
+    private static final int NORTH = Ponds.NORTH;
+    private static final int EAST = Ponds.EAST;
+    private static final int SOUTH = Ponds.SOUTH;
+    private static final int WEST = Ponds.WEST;
 
     private static final Check CHECK = new Check();
 
     private static void due(String what, long due, long got) {
         CHECK.same(what, due, got);
-    }
-
-    private static CarvedRinks written(String text) {
-        CarvedRinks c = new CarvedRinks();
-        write(c, text);
-        return c;
-    }
-
-    private static void write(CarvedRinks c, String text) {
-        for (char sign : text.toCharArray()) {
-            c.append(sign);
-        }
-    }
-
-    /** Skater 0 cuts the pond into two halves and owns the western one; it ends at (4, 8). */
-    private static CarvedRinks halved() {
-        CarvedRinks c = new CarvedRinks();
-        c.glide(0, EAST, 4);
-        c.glide(0, SOUTH, 8);
-        return c;
-    }
-
-    /** The cells (0, 0), (1, 0), (0, 1), (1, 1) are a rink of skater 0, which stands at (0, 2). */
-    private static CarvedRinks cornered() {
-        CarvedRinks c = new CarvedRinks();
-        c.glide(0, EAST, 2);
-        c.glide(0, SOUTH, 2);
-        c.glide(0, WEST, 2);
-        return c;
-    }
-
-    private static void noIce(CarvedRinks c) {
-        for (int cell = 0; cell < 64; cell++) {
-            c.hole(cell % 8, cell / 8);
-        }
     }
 
     private static void newObject() {
@@ -109,7 +74,7 @@ public final class PromisesTest {
     }
 
     private static void glideOwns() {
-        CarvedRinks c = halved();
+        CarvedRinks c = Ponds.halved();
         due("2: of like parts that with the lowest cell", 32, c.skater(0, 3));
         due("2: the western part", 0, c.cell(3, 7, 1));
         due("2: the eastern part", -1, c.cell(4, 0, 1));
@@ -137,7 +102,7 @@ public final class PromisesTest {
     }
 
     private static void glideTolls() {
-        CarvedRinks c = halved();
+        CarvedRinks c = Ponds.halved();
         c.glide(2, NORTH, 4);
         due("2: no toll at the edge", 20, c.skater(2, 2));
         c.set(0, 9);
@@ -155,11 +120,11 @@ public final class PromisesTest {
         c.hole(1, 4);
         c.set(0, 9);
         due("2: no toll along water", 1, c.glide(2, WEST, 1));
-        CarvedRinks o = halved();
+        CarvedRinks o = Ponds.halved();
         o.glide(0, WEST, 2);
         due("2: in its own rink", 3, o.glide(0, NORTH, 3));
         due("2: no toll there", 0, o.skater(0, 7));
-        CarvedRinks b = halved();
+        CarvedRinks b = Ponds.halved();
         b.glide(1, WEST, 3);
         b.glide(1, SOUTH, 8);
         due("2: skater 1 owns a part", 8, b.skater(1, 3));
@@ -186,7 +151,7 @@ public final class PromisesTest {
         due("2: cut it stays", 1, c.line(0, 1, EAST, 1));
         due("2: the wear counts on", 4, c.line(0, 1, EAST, 0));
         due("2: no ice beside", 3, c.why(0, EAST));
-        CarvedRinks o = cornered();
+        CarvedRinks o = Ponds.cornered();
         o.set(1, 1);
         due("2: a step that cracks a line is made", 1, o.glide(0, EAST, 1));
         due("2: water is owned by none", 3, o.skater(0, 3));
@@ -195,7 +160,7 @@ public final class PromisesTest {
         b.glide(0, SOUTH, 1);
         b.glide(0, NORTH, 1);
         due("2: a line at the edge cracks", 63, b.count(0));
-        CarvedRinks p = halved();
+        CarvedRinks p = Ponds.halved();
         p.set(1, 1);
         p.glide(2, EAST, 3);
         p.glide(2, NORTH, 1);
@@ -238,7 +203,7 @@ public final class PromisesTest {
         o.hole(3, 3);
         due("3: all at once", 4, o.thaw());
         due("3: all at once", 8, o.thaw());
-        CarvedRinks d = cornered();
+        CarvedRinks d = Ponds.cornered();
         d.set(2, 1);
         d.hole(2, 0);
         due("3: over a cut", 3, d.thaw());
@@ -268,7 +233,7 @@ public final class PromisesTest {
     }
 
     private static void hole() {
-        CarvedRinks c = cornered();
+        CarvedRinks c = Ponds.cornered();
         due("4: owned by none", -1, c.hole(5, 5));
         due("4: owned", 0, c.hole(1, 1));
         due("4: became water", 2, c.count(7));
@@ -356,20 +321,20 @@ public final class PromisesTest {
     private static void firstError() {
         String[] good = {"", "t", "0", "0n", "2w8", "1e1;", "t;t", "0s4;1w4;t;2n1", "t;1"};
         for (String text : good) {
-            due("9: " + text, text.length(), written(text).firstError());
+            due("9: " + text, text.length(), Ponds.written(text).firstError());
         }
         String[] bad = {";", "3", "n", "T", "0N", "0x", "00", "0t", "0n0", "0n9", "0n;", "0n1n", "tt",
             "0n12", "t;;", "t;n", "0n1;3", "0n1;0e1;t0", "/", "0n:", "0n/"};
         for (String text : bad) {
-            due("9: " + text, text.length() - 1, written(text).firstError());
-            due("9: " + text + " and more", text.length() - 1, written(text + ";t").firstError());
+            due("9: " + text, text.length() - 1, Ponds.written(text).firstError());
+            due("9: " + text + " and more", text.length() - 1, Ponds.written(text + ";t").firstError());
         }
-        CarvedRinks full = written("t;t;t;t;t;t;t;t;t;t;t;t;t;t;t;t;t;t;t;t;t;t;t;t;t;t;t;t;t;t;");
+        CarvedRinks full = Ponds.written("t;t;t;t;t;t;t;t;t;t;t;t;t;t;t;t;t;t;t;t;t;t;t;t;t;t;t;t;t;t;");
         due("9: of any length", 60, full.firstError());
     }
 
     private static void play() {
-        CarvedRinks c = written("0e2;0s2;0w2");
+        CarvedRinks c = Ponds.written("0e2;0s2;0w2");
         due("10: steps", 6, c.play());
         due("10: the corner", 4, c.skater(0, 3));
         due("10: cleared", 0, c.clearBuffer());
@@ -377,24 +342,24 @@ public final class PromisesTest {
         due("10: undone as one", 0, c.undo());
         due("10: undone as one", 0, c.skater(0, 6));
         due("10: the buffer is not undone", 0, c.clearBuffer());
-        CarvedRinks d = written("0n1;0e1;t");
+        CarvedRinks d = Ponds.written("0n1;0e1;t");
         due("10: ends behind the first that makes fewer", 0, d.play());
         due("10: cleared all the same", 0, d.clearBuffer());
         due("10: undoable all the same", 1, d.count(11));
-        CarvedRinks e = written("2e3;1n1;t");
+        CarvedRinks e = Ponds.written("2e3;1n1;t");
         due("10: the steps before", 3, e.play());
         due("10: no thaw behind it", 0, e.count(6));
-        CarvedRinks f = written("1w8;t");
+        CarvedRinks f = Ponds.written("1w8;t");
         due("10: those of it, too", 7, f.play());
         due("10: no thaw behind it", 0, f.count(6));
-        CarvedRinks t = written("t;1s1;t");
+        CarvedRinks t = Ponds.written("t;1s1;t");
         t.hole(1, 0);
         t.hole(0, 1);
         due("10: thaws make no steps", 1, t.play());
         due("10: two thaws", 2, t.count(6));
         due("10: as thaw() does", 4, t.count(7));
         for (String text : new String[] {"", "0", "0n", "t;", "0n1;", "x", "t;x", "0n1;3n1", "tt"}) {
-            CarvedRinks w = written(text);
+            CarvedRinks w = Ponds.written(text);
             CHECK.throwsArgument("10: " + text, w::play);
             due("10: the buffer stays", text.length(), w.clearBuffer());
             due("10: nothing is saved", 0, w.count(11));
@@ -402,10 +367,10 @@ public final class PromisesTest {
     }
 
     private static void snapshot() {
-        CarvedRinks c = cornered();
+        CarvedRinks c = Ponds.cornered();
         c.set(0, 5);
         c.hole(7, 7);
-        write(c, "0n");
+        Ponds.write(c, "0n");
         due("11: ice", 63, c.keep());
         due("11: not undoable", 5, c.count(11));
         c.glide(1, SOUTH, 3);
@@ -466,7 +431,7 @@ public final class PromisesTest {
     }
 
     private static void cell() {
-        CarvedRinks c = cornered();
+        CarvedRinks c = Ponds.cornered();
         c.hole(4, 4);
         c.hole(5, 5);
         int[] owned = {1, 0, 0, 4, 0, -1};
@@ -495,7 +460,7 @@ public final class PromisesTest {
     }
 
     private static void line() {
-        CarvedRinks c = cornered();
+        CarvedRinks c = Ponds.cornered();
         c.hole(0, 0);
         int[][] dues = {{2, 0, SOUTH, 1, 1, 2}, {0, 2, EAST, 1, 1, 2}, {0, 1, EAST, 0, 0, 1},
             {0, 0, EAST, 1, 0, 0}, {1, 0, EAST, 1, 0, 1}, {8, 7, SOUTH, 0, 0, 1}, {7, 8, EAST, 0, 0, 1}};
@@ -520,7 +485,7 @@ public final class PromisesTest {
     }
 
     private static void skater() {
-        CarvedRinks c = halved();
+        CarvedRinks c = Ponds.halved();
         c.glide(2, NORTH, 4);
         c.glide(2, EAST, 4);
         int[] numbers = {4, 8, 28, 32, 32, 2, 12, 0, 8};
@@ -538,7 +503,7 @@ public final class PromisesTest {
     }
 
     private static void rink() {
-        CarvedRinks c = halved();
+        CarvedRinks c = Ponds.halved();
         c.glide(2, NORTH, 4);
         c.glide(2, EAST, 4);
         int[][] rinks = {{0, 16, 0}, {4, 32, -1}, {32, 16, 0}, {-1, -1, -1}};
@@ -553,7 +518,7 @@ public final class PromisesTest {
         for (int wrong : new int[] {-1, 3, LEAST, MOST}) {
             CHECK.throwsArgument("17: what " + wrong, () -> c.rink(MOST, wrong));
         }
-        noIce(c);
+        Ponds.melt(c);
         due("17: without ice", -1, c.rink(0, 0));
         CarvedRinks s = new CarvedRinks();
         for (int cell = 0; cell < 64; cell++) {
@@ -568,7 +533,7 @@ public final class PromisesTest {
     }
 
     private static void count() {
-        CarvedRinks c = halved();
+        CarvedRinks c = Ponds.halved();
         c.glide(2, NORTH, 4);
         c.glide(2, EAST, 4);
         c.pay(1, 5);
@@ -585,18 +550,10 @@ public final class PromisesTest {
         for (int wrong : new int[] {-1, 12, LEAST, MOST}) {
             CHECK.throwsArgument("18: what " + wrong, () -> c.count(wrong));
         }
-        noIceLeft(c);
+        Ponds.melt(c);
         int[] none = {0, 0, 0, 0, 12, 1, 1, 64, 65, 65, 0, 6};
         for (int what = 0; what <= 11; what++) {
             due("18: without ice, count(" + what + ")", none[what], c.count(what));
-        }
-    }
-
-    private static void noIceLeft(CarvedRinks c) {
-        for (int cell = 0; cell < 64; cell++) {
-            if (c.cell(cell % 8, cell / 8, 0) == 1) {
-                c.hole(cell % 8, cell / 8);
-            }
         }
     }
 
@@ -613,7 +570,7 @@ public final class PromisesTest {
         c.hole(0, 0);
         due("20: taken ahead of no ice", 2, c.why(0, SOUTH));
         due("20: no ice", 3, c.why(0, EAST));
-        CarvedRinks t = halved();
+        CarvedRinks t = Ponds.halved();
         t.glide(2, NORTH, 4);
         t.set(0, 9);
         t.glide(2, EAST, 2);
@@ -643,7 +600,7 @@ public final class PromisesTest {
             due("21: back, " + what, off[what], c.ifGlided(0, NORTH, 2, what));
         }
         due("21: nothing is changed", 0, c.digest() - before);
-        CarvedRinks t = halved();
+        CarvedRinks t = Ponds.halved();
         t.glide(2, NORTH, 4);
         int[] toll = {4, 0, 8, 3};
         for (int what = 0; what <= 3; what++) {
@@ -651,7 +608,7 @@ public final class PromisesTest {
         }
         t.glide(2, EAST, 2);
         due("21: only the tolls of this glide", 4, t.ifGlided(2, EAST, 2, 2));
-        CarvedRinks w = cornered();
+        CarvedRinks w = Ponds.cornered();
         w.set(1, 1);
         due("21: fewer cells", -1, w.ifGlided(0, EAST, 1, 1));
         due("21: fewer cells", -2, w.ifGlided(0, EAST, 2, 1));
@@ -726,7 +683,7 @@ public final class PromisesTest {
     }
 
     private static void shares() {
-        CarvedRinks c = halved();
+        CarvedRinks c = Ponds.halved();
         CHECK.same("24: a half", Double.doubleToLongBits(0.5), Double.doubleToLongBits(c.ownedShare()));
         CHECK.same("25: two rinks", Float.floatToIntBits(32.0f), Float.floatToIntBits(c.meanRink()));
         c.hole(0, 0);
@@ -735,7 +692,7 @@ public final class PromisesTest {
         CHECK.same("24: 31 of 63", Double.doubleToLongBits(31.0 / 63.0), Double.doubleToLongBits(c.ownedShare()));
         c.hole(7, 7);
         CHECK.same("25: 62 in 3", Float.floatToIntBits(62.0f / 3.0f), Float.floatToIntBits(c.meanRink()));
-        noIceLeft(c);
+        Ponds.melt(c);
         CHECK.same("24: without ice", 0L, Double.doubleToRawLongBits(c.ownedShare()));
         CHECK.same("25: without ice", 0, Float.floatToRawIntBits(c.meanRink()));
     }
@@ -747,7 +704,7 @@ public final class PromisesTest {
         CarvedRinks c = new CarvedRinks();
         c.keep();
         due("26: the snapshot", 1, differs(first, c.digest()));
-        CarvedRinks b = written("t");
+        CarvedRinks b = Ponds.written("t");
         long t = b.digest();
         due("26: the buffer", 1, differs(first, t));
         b.clearBuffer();
