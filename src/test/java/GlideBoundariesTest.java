@@ -183,6 +183,16 @@ public final class GlideBoundariesTest {
         free.glide(2, EAST, 5);
         due("between an owner and nobody", 7, free.glide(2, SOUTH, 8));
         duePurses("between an owner and nobody", free, 20, 20, 20);
+        CarvedRinks own = Ponds.columned();
+        own.set(0, 9);
+        own.glide(0, NORTH, 1);
+        own.glide(0, EAST, 1);
+        own.glide(0, WEST, 1);
+        duePurses("two tolls to 1", own, 2, 38, 20);
+        due("its own rink with less in the purse", 0, own.why(0, WEST));
+        due("a step there", 1, own.glide(0, WEST, 1));
+        due("no toll to itself", 18, own.skater(0, 7));
+        due("none got from itself", 0, own.skater(0, 8));
         CarvedRinks two = Ponds.halved();
         two.glide(0, WEST, 2);
         two.glide(0, NORTH, 8);
@@ -337,6 +347,14 @@ public final class GlideBoundariesTest {
         Ponds.holes(c, 9, 17);
         due("a line that is cut stays cut", 1, c.line(1, 2, 1, 1));
         due("in the count too", 4, c.count(4));
+        CarvedRinks k = Ponds.cornered();
+        k.set(1, 1);
+        k.glide(0, EAST, 2);
+        k.glide(0, NORTH, 2);
+        due("four cracks", 4, k.count(5));
+        due("cracked and cut, east", 1, k.line(0, 2, 1, 1));
+        due("cracked and cut, south", 1, k.line(2, 0, 2, 1));
+        due("cracked, in the count too", 4, k.count(4));
     }
 
     // ---- rinks that are parted
